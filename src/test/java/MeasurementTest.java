@@ -346,6 +346,7 @@ public final class MeasurementTest {
 
     private static void residual() {
         Check.same("residual", Given.measured(3, 0, 0, 1).residual(), 444445);
+        Check.same("residual of the second step", Given.measured(3, 1, 5, 1).residual(), 444445);
         Check.same("residual of halves", Given.measured(2, 0, 0, 1).residual(), 250000);
         Check.same("negative residual", Given.measured(2, 0, 0, -1).residual(), 250000);
         Check.same("residual of a turned reading", Given.measured(2, 1, 7, 4).residual(), 1000000);

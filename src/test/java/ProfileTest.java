@@ -206,6 +206,7 @@ public final class ProfileTest {
         Check.same("other positions", x.subtract(3, 0), 1);
         x.setTrue(false, 0, 1);
         Check.same("slightly too great", x.subtract(3, 0), Given.BAD);
+        subtractJustTooMuch();
         x = Given.measured(2, 0, 23, -10000);
         for (int i = 1; i <= 4; i++) {
             x.subtract(0, 0);
@@ -215,8 +216,26 @@ public final class ProfileTest {
         Check.same("slightly too great, positive", x.subtract(4, 0), Given.BAD);
     }
 
+    /** 333334 - 333333 is all that is too much. */
+    private static void subtractJustTooMuch() {
+        RoundnessInstrument x = Given.measured(3, 0, 0, 1);
+        x.setTrue(false, 0, -5000);
+        for (int i = 1; i <= 8; i++) {
+            x.subtract(3, 0);
+        }
+        Check.same("the greatest profile", x.profile(0), 40000000000L);
+        Check.same("less 333333", x.subtract(2, 0), 1);
+        x.setSteps(3);
+        x.read(-1);
+        for (int i = 1; i < 72; i++) {
+            x.read(0);
+        }
+        Check.same("too great by 1", x.subtract(2, 0), Given.BAD);
+        Check.same("it stays", x.profile(0), 39999666667L);
+    }
+
     private static void vBlock() {
-        RoundnessInstrument x = Given.spikes(0, 6);
+        RoundnessInstrument x = Given.spikes(8, 6);
         Check.same("vBlock(4)", x.vBlock(4), 1);
         for (int k = 0; k < 24; k++) {
             Check.same("vBlock(4) at " + k, x.profile(k), k % 8 == 0 ? 6000000 : 0);

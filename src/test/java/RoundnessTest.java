@@ -13,6 +13,7 @@ public final class RoundnessTest {
             {153364480, -129478144, 1083109805, 3, 9, 164759948}});
         noEccentricity();
         longSearch();
+        firstStep();
         circlesFollowTheProfile();
         meanSquare();
         materialAt();
@@ -55,6 +56,18 @@ public final class RoundnessTest {
         Check.same("x of the long search", x.centre(1, false), 524509164);
         Check.same("y of the long search", x.centre(1, true), 402469788);
         Check.same("roundness of the long search", x.roundness(1), 3394.27646);
+    }
+
+    /** Searches that would end elsewhere if they began with another step than 2^30. */
+    private static void firstStep() {
+        RoundnessInstrument x = Given.spikes(2, 5000, 8, -4000, 20, -5000);
+        Check.same("inscribed x", x.centre(3, false), -1174475132);
+        Check.same("inscribed y", x.centre(3, true), -100733312);
+        Check.same("inscribed roundness", x.roundness(3), 10567.491483);
+        x = Given.spikes(8, 3000, 6, -3000, 20, 4000);
+        Check.same("circumscribed x", x.centre(2, false), 1174475140);
+        Check.same("circumscribed y", x.centre(2, true), 100733316);
+        Check.same("circumscribed roundness", x.roundness(2), 6600.733317);
     }
 
     private static void circlesFollowTheProfile() {
@@ -111,6 +124,9 @@ public final class RoundnessTest {
             least = counts[i] + 1;
         }
         Check.same("all alike", new RoundnessInstrument().depthFor(3, 24), 0);
+        x = Given.spikes(0, 24);
+        Check.same("one above all others", x.depthFor(3, 1), 0);
+        Check.same("the others", x.depthFor(3, 2), 24000000);
     }
 
     private static void wrongArguments() {

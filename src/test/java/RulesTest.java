@@ -55,6 +55,13 @@ public final class RulesTest {
         Check.same("none violated", x.violated(), 0);
         Check.same("numbers begin again", x.addRule(0, 0, 0, 0), 0);
         Check.same("the new rule", x.ruleValue(0), 0);
+        x = Given.spikes(0, 24);
+        x.addRule(0, 12, 3, 0);
+        Check.same("by method 3", x.ruleValue(0), 24000000);
+        x.clearRules();
+        x.addRule(0, 12, 2, 0);
+        x.keepLobes(0, 12);
+        Check.same("by method 2", (double) x.ruleValue(0) / 1000000, x.roundness(2));
     }
 
     private static void ruleValue() {
@@ -98,6 +105,11 @@ public final class RulesTest {
         x.rotate(1);
         x.keepLobes(0, 11);
         Check.same("none of another profile", x.violated(), 0);
+        x = Given.spikes(1, 6);
+        x.addRule(0, 12, 3, 6);
+        x.addRule(0, 12, 3, 7);
+        Check.same("slightly above the limit", x.ruleValue(0), 6000001);
+        Check.same("only one is violated", x.violated(), 1);
         x = Given.measured(2, 0, 0, 10000);
         x.load(0, 0);
         x.subtract(0, 0);

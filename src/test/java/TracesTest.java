@@ -148,6 +148,7 @@ public final class TracesTest {
     private static void farthestTrace() {
         Check.same("three traces", traces(5, 0, 0, 5, 0, 1, 0, 12, 3).farthestTrace(), 1);
         Check.same("y counts", traces(5, 0, 0, 5, 0, 1, 6, -12, 3).farthestTrace(), 1);
+        Check.same("two traces", traces(0, 12, 0, 6, 36, 50).farthestTrace(), 0);
         Check.same("all on the axis", traces(0, 12, 0, 0, 36, 50, 0, 60, 100).farthestTrace(), 0);
         Check.same("the last one", traces(0, 12, 10, 0, 36, 70, 0, 12, 20, 6, 999, 30).farthestTrace(), 3);
         Check.same("one trace", traces(0, 12, 0).farthestTrace(), Given.NOT_NOW);
@@ -177,6 +178,13 @@ public final class TracesTest {
         Check.same("second to first", x.bestRotation(1, 0), 22);
         Check.same("itself", x.bestRotation(1, 1), 0);
         Check.same("all alike", x.bestRotation(0, 2), 0);
+        for (int by = 0; by < 24; by++) {
+            x = Given.spikes(3, 10, 5, -7);
+            x.storeTrace(0);
+            x.rotate(by);
+            x.storeTrace(1);
+            Check.same("rotated by " + by, x.bestRotation(0, 1), by);
+        }
         x = Given.twoLobes();
         x.storeTrace(0);
         x.rotate(-1);
