@@ -808,8 +808,8 @@ public final class RoundnessInstrument {
     }
 
     /**
-     * The present profile with those before it and those undone, in a ring: a call that changes the profile
-     * forgets the undone ones, so that undoable and redoable together never need more than its places.
+     * The present profile with those before it and those undone, in a ring. A new profile forgets the undone
+     * ones, so that there are never more than 20 of both kinds together.
      */
     private static final class History {
         private static final int MOST_UNDOABLE = 20;
@@ -862,19 +862,20 @@ public final class RoundnessInstrument {
     private static final class Circle {
         private static final long FIRST_STRIDE = 1L << 30;
         // Each move lowers the value by 1 at least and no value falls by as much as this, so that the bound is
-        // never reached. It must not be small: between two flat slopes a search can zigzag for many millions of
-        // rounds.
+        // never reached. A small one would cut searches short: between two nearly flat slopes some zigzag for
+        // many millions of rounds.
         private static final long MOST_ROUNDS = 1L << 40;
         private static final int MOVES_PER_PICK = 16;
         private static final int[] TO_X = {1, 1, 0, -1, -1, -1, 0, 1};
         private static final int[] TO_Y = {0, 1, 1, 1, 0, -1, -1, -1};
         private static final int NOWHERE = -1;
+        private static final int UNFITTED = -1;
 
         private final long[] profile = new long[POSITIONS];
         private final long[] deviations = new long[POSITIONS];
         private final int[] near = new int[POSITIONS];
         private int nearCount = 0;
-        private int method = NOWHERE;
+        private int method = UNFITTED;
         private long x = 0;
         private long y = 0;
         private long greatest = 0;
