@@ -2,8 +2,14 @@
 final class Check {
     private static int right = 0;
     private static int wrong = 0;
+    private static String about = "";
 
     private Check() {
+    }
+
+    /** What the following checks are about; it is told with each wrong answer. */
+    static void about(String what) {
+        about = what;
     }
 
     static void same(String call, long got, long due) {
@@ -37,7 +43,7 @@ final class Check {
             right++;
         } else {
             wrong++;
-            System.out.println("  wrong: " + complaint);
+            System.out.println("  wrong: " + complaint + (about.isEmpty() ? "" : " -- " + about));
         }
     }
 }

@@ -15,6 +15,7 @@ import java.util.Random;
 public final class ModelTest {
     private static final int RUNS = 300;
     private static final int CALLS = 512;
+    private static final int LONGEST_TEXT = 80;
 
     /** For each method: how often it is drawn, then the least and the greatest value of each int argument. */
     private static final Map<String, int[]> DRAWN = new HashMap<>();
@@ -107,7 +108,7 @@ public final class ModelTest {
         for (int call = 0; call < CALLS; call++) {
             Method method = METHODS.get(random.nextInt(METHODS.size()));
             if (method.getName().equals("type")) {
-                call += typeText(program, model, random, log);
+                call += call + LONGEST_TEXT < CALLS ? typeText(program, model, random, log) : 0;
                 continue;
             }
             Object[] arguments = arguments(method, random);

@@ -49,13 +49,16 @@ public final class RoundnessTest {
         }
     }
 
-    /** A search that takes 2048900 rounds, because it zigzags between two nearly flat slopes. */
+    /**
+     * A search that takes 878930 rounds, because it zigzags between two nearly flat slopes. It is no longer than that
+     * because LANGUAGE.md calls a bound of a million fine where the document tells none.
+     */
     private static void longSearch() {
-        RoundnessInstrument x = Given.spikes(0, 5000, 5, 5000);
-        x.keepLobes(6, 10);
-        Check.same("x of the long search", x.centre(1, false), 524509164);
-        Check.same("y of the long search", x.centre(1, true), 402469788);
-        Check.same("roundness of the long search", x.roundness(1), 3394.27646);
+        RoundnessInstrument x = Given.spikes(0, 900, 14, 900);
+        x.keepLobes(5, 9);
+        Check.same("x of the long search", x.centre(1, false), 30144402);
+        Check.same("y of the long search", x.centre(1, true), -112500104);
+        Check.same("roundness of the long search", x.roundness(1), 649.5188);
     }
 
     /** Searches that would end elsewhere if they began with another step than 2^30. */
