@@ -19,6 +19,7 @@ final class DescriptionEdges {
         noneIsNoError();
         constants();
         lastCall();
+        twoObjects();
     }
 
     private static void units() {
@@ -249,5 +250,33 @@ final class DescriptionEdges {
         }
         Check.same("call 511, a reading", x.read(9), 1);
         Check.same("call 512, a reading", x.reading(0, 0), 9);
+    }
+
+    /** "Each of them begins with a new object": nothing of one object is found in another one. */
+    private static void twoObjects() {
+        Doc.says(1, "Creates an instrument without readings");
+        RoundnessInstrument x = Given.measured(8, 3, 4, 5);
+        x.setTrue(false, 1, 6);
+        x.setTrue(true, 1, 6);
+        x.setEccentricity(7, 8);
+        x.load(0, 3);
+        x.storeTrace(9);
+        x.addRule(0, 12, 3, 1);
+        Given.type(x, "n2");
+        RoundnessInstrument y = new RoundnessInstrument();
+        y.setTrue(false, 2, 3);
+        Check.same("steps", y.progress(0), 4);
+        Check.same("readings", y.progress(1), 0);
+        Check.same("true part", y.setTrue(false, 1, 0), 0);
+        Check.same("true spindle", y.setTrue(true, 1, 0), 0);
+        Check.same("eccentricity", y.setEccentricity(0, 0), 0);
+        Check.profile("profile", y, 0);
+        Check.same("undo", y.undo(), Given.NONE);
+        Check.same("traces", y.taper(), Given.NO_VALUE);
+        Check.same("rules", y.clearRules(), 0);
+        Check.same("text", y.clearText(), 0);
+        Check.same("the first one stays", x.progress(1), 192);
+        Check.same("its rule", x.violated(), 1);
+        Check.same("its true part", x.setTrue(false, 2, 0), 0);
     }
 }

@@ -429,10 +429,15 @@ final class MeasurementEdges {
         for (int steps : Given.STEP_COUNTS) {
             long due = 9000000 - Math.floorDiv(9000000 * (steps - 1), steps * steps) - 9000000 / steps;
             for (int step = 0; step < steps; step += steps - 1) {
-                Check.same("of step " + step + " of " + steps, Given.measured(steps, step, 1, 9).residual(), due);
+                for (int k : new int[] {0, 1, 23}) {
+                    String which = "of step " + step + " of " + steps + " at " + k;
+                    Check.same(which, Given.measured(steps, step, k, 9).residual(), due);
+                }
             }
         }
         Doc.says(12, "Returns this value");
+        Check.same("the greatest difference is below 0", Given.measured(3, 0, 0, -1).residual(), 444443);
+        Check.same("it is rounded for part and spindle", Given.measured(3, 0, 0, 1).residual(), 444445);
         Check.same("below 0", Given.measured(2, 1, 20, -9).residual(), 2250000);
         Check.same("all 0", Given.measured(2, 1, 20, 0).residual(), 0);
         RoundnessInstrument x = new RoundnessInstrument();
@@ -442,7 +447,7 @@ final class MeasurementEdges {
             Check.same("after " + j + " steps", x.residual(), Given.NO_VALUE);
             x.simulateStep();
         }
-        Check.isTrue("exact readings", x.residual() >= 0 && x.residual() < 1000000);
+        Check.isTrue("exact readings", x.residual() >= 0 && x.residual() <= 2);
         Doc.says(12, "NO_VALUE if the measurement is not complete");
         Check.same("one reading is missing", numbered(2, 47).residual(), Given.NO_VALUE);
         Check.same("a step is missing", numbered(2, 24).residual(), Given.NO_VALUE);

@@ -20,6 +20,7 @@ final class ProfileEdges {
         vBlockDescription();
         vBlock();
         vBlockTooGreat();
+        noOtherLimit();
         isBlindInVBlock();
     }
 
@@ -370,6 +371,44 @@ final class ProfileEdges {
         x.subtract(3, 0);
         Check.same("40001000000", x.vBlock(4), Given.BAD);
         Check.same("it stays", x.profile(8), sign * 20001000000L);
+    }
+
+    /** Only subtract() and vBlock() refuse values above 40000000000; other calls may bring greater ones about. */
+    private static void noOtherLimit() {
+        RoundnessInstrument x = new RoundnessInstrument();
+        for (int k = 0; k < 24; k++) {
+            x.setTrue(false, k, k == 0 ? -5000 : 5000);
+        }
+        for (int i = 1; i <= 8; i++) {
+            x.subtract(3, 0);
+        }
+        Check.about("Promise 16: has no limit");
+        Check.same("removeEccentricity()", x.removeEccentricity(), 1);
+        Check.same("z(0)", x.profile(0), 70000000001L);
+        Check.same("z(1)", x.profile(1), -9772839999L);
+        Doc.says(18, "then BAD_VALUE if the absolute value of some new z(k) would be above 40000000000");
+        Check.same("subtract zeros", x.subtract(4, 0), Given.BAD);
+        Check.same("subtract what makes it even greater", x.subtract(3, 0), Given.BAD);
+        Doc.says(19, "BAD_VALUE, also if the absolute value of some new z(k) would be above 40000000000");
+        Check.same("vBlock()", x.vBlock(3), Given.BAD);
+        Check.same("neither is remembered", x.undo(), 8);
+        Check.same("brought back", x.redo(), 0);
+        Check.about("Promises 15, 17, 33 and 35: have no limit");
+        Check.same("rotate()", x.rotate(5), 1);
+        Check.same("storeTrace()", x.storeTrace(0), 0);
+        Check.same("keepLobes()", x.keepLobes(0, 12), 1);
+        Check.same("recall()", x.recall(0), 1);
+        Check.same("recalled", x.profile(5), 70000000001L);
+        for (int k = 0; k < 24; k++) {
+            x.setTrue(false, k, k < 12 ? -5000 : 5000);
+        }
+        x.load(4, 0);
+        for (int i = 1; i <= 8; i++) {
+            x.subtract(3, 0);
+        }
+        Check.same("keepLobes(1, 1) of a great profile", x.keepLobes(1, 1), 1);
+        Check.same("z(5)", x.profile(5), 50638368521L);
+        Check.same("z(17)", x.profile(17), -50638368522L);
     }
 
     private static void isBlindInVBlock() {

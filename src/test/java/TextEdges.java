@@ -305,8 +305,10 @@ final class TextEdges {
     private static void effects() {
         Doc.says(49, "If it has no fault, both true profiles and the eccentricity become 0, and its items take effect");
         RoundnessInstrument x = new RoundnessInstrument();
-        x.setTrue(false, 3, 30);
-        x.setTrue(true, 4, 40);
+        for (int k = 0; k < 24; k++) {
+            x.setTrue(false, k, 30 + k);
+            x.setTrue(true, k, -40 - k);
+        }
         x.setEccentricity(5, 6);
         x.simulateStep();
         Given.type(x, "p12a5");

@@ -241,7 +241,9 @@ final class TracesEdges {
         Doc.says(38, "Returns the cylindricity: the greatest minus the least of all deviations of all traces, each");
         // The axis is x = 1000000 at 0 and 3000000 at 50, the centres of both traces.
         RoundnessInstrument x = traces(0, 12, 0, 0, 36, 50);
-        Check.same("both on the axis", x.cylindricity(), 33.0 + 2.897778);
+        Check.same("both on the axis", x.cylindricity(), 35.897778);
+        Check.same("the other way round", traces(0, 36, 50, 0, 12, 0).cylindricity(), 35.897778);
+        Check.same("the greatest and the least in different traces", traces(0, 12, 0, 0, -12, 50).cylindricity(), 22.0);
         Doc.says(38, "Returns (double) (this difference) / 1000000");
         Check.same("three traces", traces(5, 0, 0, 5, 0, 1, 0, 12, 3).cylindricity(), 11.968359);
         Check.same("zeros", six().cylindricity(), 0.0);
