@@ -264,9 +264,14 @@ final class RoundnessEdges {
         Doc.says(31, "`depth`: 0 or more, in micro units");
         Check.same("depth 0", x.materialAt(0, 0), 2);
         Check.same("depth MAX", x.materialAt(0, Long.MAX_VALUE), 24);
-        Given.loadSpikes(y, 0, -5000, 12, -5000);
-        Check.same("depth MAX below 0", y.materialAt(0, Long.MAX_VALUE), 24);
-        Check.same("depth MAX - 1 below 0", y.materialAt(3, Long.MAX_VALUE - 1), 24);
+        y = new RoundnessInstrument();
+        y.addLobes(false, 0, -1000, 0);
+        y.load(3, 0);
+        for (int method = 0; method < 4; method++) {
+            Check.same("depth MAX below 0", y.materialAt(method, Long.MAX_VALUE), 24);
+            Check.same("depth MAX - 1 below 0", y.materialAt(method, Long.MAX_VALUE - 1), 24);
+            Check.same("depth 0 below 0", y.materialAt(method, 0), 24);
+        }
         Doc.says(31, "Returns the number of positions");
         Check.same("all alike", new RoundnessInstrument().materialAt(1, 0), 24);
         Doc.says(31, "BAD_VALUE");

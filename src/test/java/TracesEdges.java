@@ -128,8 +128,11 @@ final class TracesEdges {
         Check.same("height 9", x.storeTrace(9), 1);
         Check.same("height 8 again", x.storeTrace(8), Given.BAD);
         Check.same("height 9 again", x.storeTrace(9), Given.BAD);
+        x = traces(0, 12, 8, 0, 24, 9);
         x.removeTraces(1);
         Check.same("height 9 is free", x.storeTrace(9), 1);
+        x.removeTraces(2);
+        Check.same("height 8 is free", x.storeTrace(8), 0);
         Doc.says(33, "FULL if there are 6 traces");
         x = six();
         Check.same("a seventh", x.storeTrace(16), Given.FULL);
